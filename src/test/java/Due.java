@@ -1,0 +1,43 @@
+/** Compares answers with those that are due, prints what differs, and ends with 1 if anything did. */
+final class Due {
+  private static final int MOST_PRINTED = 40;
+  private int asked;
+  private int wrong;
+
+  void is(String call, long want, long got) {
+    asked++;
+    if (want != got) {
+      wrong++;
+      if (wrong <= MOST_PRINTED) {
+        System.out.println(call + " answered " + got + ", due is " + want);
+      }
+    }
+  }
+
+  boolean isWrong() {
+    return wrong != 0;
+  }
+
+  void end(String test) {
+    System.out.println(test + ": " + (wrong == 0 ? asked + " answers, all as due" : wrong + " of " + asked + " wrong"));
+    if (wrong != 0) {
+      System.exit(1);
+    }
+  }
+
+  static int tell(TakesWhatItLacks x, String text) {
+    for (int i = 0; i < text.length(); i++) {
+      x.feed(text.charAt(i));
+    }
+    return x.harbour();
+  }
+
+  static TakesWhatItLacks town(String text) {
+    TakesWhatItLacks x = new TakesWhatItLacks();
+    int answer = tell(x, text);
+    if (answer < 0) {
+      throw new IllegalArgumentException("not a harbour: " + text + ": " + answer);
+    }
+    return x;
+  }
+}
