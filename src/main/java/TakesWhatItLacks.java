@@ -43,6 +43,7 @@ public final class TakesWhatItLacks {
   private boolean isKept;
 
   public TakesWhatItLacks() {
+    // All else is as a Harbour is made: no SHIPS, no COUGHS, DAY 0.
     isKept = false;
   }
 
@@ -908,15 +909,13 @@ public final class TakesWhatItLacks {
 
     int sinks(int ship) {
       int good = cargo[ship];
-      int third = lackOf(good) / 3;
-      int thirdBehind = lackOf(behind(good)) / 3;
       switch (kind[ship]) {
         case BRIDE: return 9;
         case BALLAST: return notLacked();
         case DOCTOR: return coughs / 9;
-        case MIXED: return third + thirdBehind;
-        case SMUGGLER: return third + thirdBehind + hiddenOf(good) / 10;
-        default: return third;
+        case MIXED: return lackOf(good) / 3 + lackOf(behind(good)) / 3;
+        case SMUGGLER: return lackOf(good) / 3 + lackOf(behind(good)) / 3 + hiddenOf(good) / 10;
+        default: return lackOf(good) / 3;
       }
     }
 
@@ -1056,7 +1055,7 @@ public final class TakesWhatItLacks {
     }
   }
 
-  /** What the harbour was ahead of the latest changes; its rows are used again, for nothing that is made is ever let go. */
+  /** What the harbour was ahead of the latest changes. Its rows are used again: what is made is never let go. */
   private static final class Past {
     private final Harbour[] rows = new Harbour[TAKEN_BACK];
     private int held;

@@ -17,12 +17,17 @@ final class FaceTest {
   };
   private static final Due due = new Due();
 
-  private static void methods() {
-    Set<String> want = new TreeSet<>(Set.of(FACE));
+  private static Set<String> names() {
     Set<String> names = new TreeSet<>();
     for (String call : FACE) {
       names.add(call.split(" ")[1]);
     }
+    return names;
+  }
+
+  private static void methods() {
+    Set<String> want = new TreeSet<>(Set.of(FACE));
+    Set<String> names = names();
     Set<String> found = new TreeSet<>();
     for (Method method : TakesWhatItLacks.class.getDeclaredMethods()) {
       if (Modifier.isPublic(method.getModifiers())) {
@@ -66,6 +71,9 @@ final class FaceTest {
     for (Class<?> inside : TakesWhatItLacks.class.getDeclaredClasses()) {
       due.is(inside + " is static", 1, Modifier.isStatic(inside.getModifiers()) ? 1 : 0);
       due.is(inside + " is not public", 0, inside.getModifiers() & Modifier.PUBLIC);
+      for (Method method : inside.getDeclaredMethods()) {
+        due.is(method + " has no name of the face", 0, names().contains(method.getName()) ? 1 : 0);
+      }
       fields(inside);
     }
     due.is("at most twelve classes", 1, TakesWhatItLacks.class.getDeclaredClasses().length < 12 ? 1 : 0);

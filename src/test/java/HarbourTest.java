@@ -367,6 +367,7 @@ final class HarbourTest {
     due.is("11: no LACK, no COUGH", 0, x.count(2));
     x.days(1);
     due.is("11: LACK, a COUGH", 1, x.count(2));
+    due.is("11: LACK of 1, a COUGH", 1, Due.town("u01;t007;d01;").count(2));
     TakesWhatItLacks y = Due.town("u00;u19;d05;");
     due.is("11: LACK of another GOOD", 0, y.count(2));
     TakesWhatItLacks z = Due.town("u00;c18;s30312;");

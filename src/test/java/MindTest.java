@@ -198,6 +198,7 @@ final class MindTest {
     due.is("21: forWhat(3), IN", -3, x.forWhat(3));
     refused("21", x, 2, 0, 1, 0, 0);
     due.is("21: for its GOOD", 1, Due.town("u09;s09060;").forWhat(0));
+    due.is("21: for its GOOD, of which nothing is THERE", 1, Due.town("d01;t000;s00000;").forWhat(0));
     due.is("21: it would be IN by either", 0, Due.town("t100;t200;s40100;").forWhat(0));
     due.is("21: a BALLAST, the fewer are LACKED", 0, Due.town("u09;s09060;s29160;").forWhat(1));
   }
@@ -240,6 +241,7 @@ final class MindTest {
   }
 
   private static void promise24Lasts() {
+    due.is("24: 20 over 1", 20, Due.town("u01;").lasts(0));
     TakesWhatItLacks x = Due.town("u13;u20;t399;u31;t400;t500;u50;s00099;");
     due.is("24: 20 over 2", 10, x.lasts(0));
     due.is("24: 20 over 3, rounded up", 7, x.lasts(1));
@@ -354,6 +356,13 @@ final class MindTest {
     due.is("28: the first", 10, one.two(0, 1, 1));
     due.is("28: the second", 1, one.two(1, 0, 1));
     due.is("28: what there is, if less", 10, Due.town("u09;t006;s09060;u12;t106;s41060;t000;").two(1, 2, 1));
+    // Without hiding LACK is 35; with it the SHIP comes, and LACK is 45 less its LOAD, and 5 for hiding.
+    due.is("28: hiding for 5 is no better", 0, Due.town("u09;t037;s09015;").two(0, 1, 1));
+    due.is("28: hiding for 6 is", 10, Due.town("u09;t037;s09016;").two(0, 1, 1));
+    due.is("28: nor for the second", 0, Due.town("u19;t137;s09115;").two(0, 1, 1));
+    due.is("28: for the second, too", 1, Due.town("u19;t137;s09116;").two(0, 1, 1));
+    due.is("28: 10 are too few", 0, Due.town("u09;t038;s09060;").two(0, 1, 1));
+    due.is("28: 10 of the second are too few", 0, Due.town("u19;t138;s09160;").two(0, 1, 1));
     // Reckoned by hand: 20 and 0 of neither, 4 + 5 and 12 of the first, 0 and 5 of the second, 9 and 5 of both.
     due.is("28: no pair", -9, Due.town("t043;u07;t116;u16;s47052;s01138;").two(0, 1, 2));
   }

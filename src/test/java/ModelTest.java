@@ -4,8 +4,9 @@ import java.util.List;
 
 /** Runs of up to 512 calls, the same ones on the class and on the Model, whose answers must be one. */
 final class ModelTest {
-  private static final int OBJECTS = 400;
+  private static final int OBJECTS = 300;
   private static final int CALLS = 512;
+  private static final int TOWNS_AN_OBJECT = 3;
 
   /** A call and what its numbers are: see number(). */
   private static final String[] CALLS_OF_FACE = {
@@ -184,13 +185,37 @@ final class ModelTest {
     }
   }
 
-  private void oneObject(int which) throws Exception {
+  private void begin(int which) {
     object = which;
     seed = which * 7919 + 17;
     made = 0;
     x = new TakesWhatItLacks();
     model = new Model();
     run.clear();
+  }
+
+  /** A town of which all SHIPS are OUT still, and a few questions: in a long run such towns are rare. */
+  private void freshTown(int which) throws Exception {
+    begin(which);
+    for (int ships = 2 + below(6); ships > 0; ships--) {
+      call("ship", below(6), below(10), below(below(2) == 0 ? 6 : 2), below(100));
+    }
+    freshen();
+    for (int good = 0; good < 6; good++) {
+      call("hides", good, below(30));
+    }
+    call("days", 1 + below(8));
+    for (int i = 0; i < 60; i++) {
+      if (below(20) == 0) {
+        tellTruth();
+      } else {
+        anyCall();
+      }
+    }
+  }
+
+  private void oneObject(int which) throws Exception {
+    begin(which);
     int before = below(30);
     for (int i = 0; i < before; i++) {
       anyCall();
@@ -212,6 +237,9 @@ final class ModelTest {
     int objects = args.length == 0 ? OBJECTS : Integer.parseInt(args[0]);
     for (int i = 0; i < objects && !test.due.isWrong(); i++) {
       test.oneObject(i);
+      for (int k = 0; k < TOWNS_AN_OBJECT && !test.due.isWrong(); k++) {
+        test.freshTown(1000003 + i * TOWNS_AN_OBJECT + k);
+      }
     }
     if (test.due.isWrong()) {
       System.out.println("the run: " + test.run);

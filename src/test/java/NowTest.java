@@ -23,6 +23,8 @@ final class NowTest {
     due.is("30: PLENTY, 14 is not", 42, y.deepest(3));
     due.is("30: TWINS", 4, y.deepest(4));
     due.is("30: those that are IN, too", 0, Due.town("s10000;d01;").deepest(0));
+    due.is("30: SHORTEST is 1", 1, Due.town("u19;u28;").deepest(1));
+    due.is("30: SHORTEST is 5", 5, Due.town("u28;u59;").deepest(1));
     due.is("30: seven of one GOOD", 21,
         Due.town("s00000;s00000;s00000;s00000;s00000;s00000;s00000;").deepest(4));
     due.is("30: PLENTY of what nobody uses", 61, Due.town("u00;t001;t100;u10;").deepest(3));
@@ -39,6 +41,7 @@ final class NowTest {
     mean("s00000;s00000;s00000;", 0, 1);
     mean("s00010;s00020;s10025;d01;", 55, 3);
     mean("s00010;s00020;s00024;", 18, 1);
+    mean("s00025;", 25, 1);
     mean("s00001;s00000;s00000;s00001;", 1, 2);
     TakesWhatItLacks x = new TakesWhatItLacks();
     due.is("31: mean(-1)", 4000000000000000002L, x.mean(-1));
@@ -105,6 +108,7 @@ final class NowTest {
     due.is("36: never", -9, Due.town("u09;").filled());
     due.is("36: the third fills it", 3, Due.town("u09;s10099;s09020;s09023;s09099;").filled());
     due.is("36: one too little", -9, Due.town("u09;s10099;s09020;s09022;").filled());
+    due.is("36: the second, for a LACK of 1", 2, Due.town("u09;s09042;s09001;").filled());
     due.is("36: two GOODS", 1, Due.town("u06;u16;s49044;").filled());
     due.is("36: two GOODS, one too little", -9, Due.town("u06;u16;s49043;").filled());
     TakesWhatItLacks x = Due.town("s10099;d01;u09;s09099;");
