@@ -179,6 +179,8 @@ final class MindTest {
     due.is("20: never", -9, Due.town("s49160;").fewest(0, 60));
     due.is("20: it is IN", 0, Due.town("s10000;d01;").fewest(0, 1));
     due.is("20: a SMUGGLER by what is HIDDEN", 2, Due.town("u20;s59160;t190;").fewest(0, 1));
+    // At TIDE 1 one GOOD not LACKED lets the BALLAST in, whose LOAD then shuts out the other.
+    due.is("20: all six", 63, Due.town("d01;s20099;s02000;").fewest(1, 1));
     due.is("20: fewest(1, 0)", -1, x.fewest(1, 0));
     due.is("20: fewest(-1, 61)", -1, x.fewest(-1, 61));
     due.is("20: fewest(0, 0)", -4, x.fewest(0, 0));
