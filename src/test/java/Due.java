@@ -32,12 +32,25 @@ final class Due {
     return x.harbour();
   }
 
-  static TakesWhatItLacks town(String text) {
+  /** One text is 96 letters at most, so a town may be told in several. */
+  static TakesWhatItLacks town(String... texts) {
     TakesWhatItLacks x = new TakesWhatItLacks();
-    int answer = tell(x, text);
-    if (answer < 0) {
-      throw new IllegalArgumentException("not a harbour: " + text + ": " + answer);
+    for (String text : texts) {
+      int answer = tell(x, text);
+      if (answer < 0) {
+        throw new IllegalArgumentException("not a harbour: " + text + ": " + answer);
+      }
     }
     return x;
+  }
+
+  /** A text that lets so many DAYS, 0 .. 999, go by. */
+  static String days(int n) {
+    StringBuilder text = new StringBuilder();
+    for (int left = n; left > 0; left -= 60) {
+      int some = Math.min(60, left);
+      text.append('d').append(some / 10).append(some % 10).append(';');
+    }
+    return text.toString();
   }
 }
