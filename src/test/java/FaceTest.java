@@ -59,7 +59,7 @@ final class FaceTest {
       } else {
         own++;
       }
-      due.is(field + " is hidden", 0, field.getModifiers() & Modifier.PUBLIC);
+      due.is(field + " is hidden", 0, field.isEnumConstant() ? 0 : field.getModifiers() & Modifier.PUBLIC);
     }
     due.is(in + " has at most twenty fields", 1, own <= 20 ? 1 : 0);
   }
@@ -71,9 +71,6 @@ final class FaceTest {
     for (Class<?> inside : TakesWhatItLacks.class.getDeclaredClasses()) {
       due.is(inside + " is static", 1, Modifier.isStatic(inside.getModifiers()) ? 1 : 0);
       due.is(inside + " is not public", 0, inside.getModifiers() & Modifier.PUBLIC);
-      for (Method method : inside.getDeclaredMethods()) {
-        due.is(method + " has no name of the face", 0, names().contains(method.getName()) ? 1 : 0);
-      }
       fields(inside);
     }
     due.is("at most twelve classes", 1, TakesWhatItLacks.class.getDeclaredClasses().length < 12 ? 1 : 0);

@@ -49,6 +49,10 @@ final class LettersEdgeTest {
     due.is("-6", 3, x.count(16));
     due.is("the FAULT of them", -1000, x.harbour());
     due.is("they begin anew", 1, x.feed('c'));
+    for (int letter = 0; letter <= 255; letter++) {
+      TakesWhatItLacks any = new TakesWhatItLacks();
+      due.is("any letter from the least to the greatest, " + letter, 1, any.feed(letter));
+    }
   }
 
   // ---- promise 3: kind 1

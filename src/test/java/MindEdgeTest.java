@@ -33,6 +33,9 @@ final class MindEdgeTest {
     due.is("13: 1 DAY on", 98, x.thereIn(5, 1));
     due.is("13: 59 DAYS on", 40, x.thereIn(5, 59));
     due.is("13: 60 DAYS on", 39, x.thereIn(5, 60));
+    for (int n = 0; n <= 60; n++) {
+      due.is("13: 1 less each DAY, " + n + " on", 99 - n, x.thereIn(5, n));
+    }
     due.is("13: the first GOOD, none USED", 20, x.thereIn(0, 60));
     due.is("13: 0 at least", 0, still("u59;t509;").thereIn(5, 1));
     due.is("13: 0 at least, of 8", 0, still("u59;t508;").thereIn(5, 1));
@@ -53,6 +56,11 @@ final class MindEdgeTest {
       due.is("14: COUGHS " + n + " DAYS on", coughs[n], x.then(n, 0));
     }
     due.is("14: COUGHS 60 DAYS on", 99, x.then(60, 0));
+    TakesWhatItLacks lacking = still("u09;t072;s01100;");
+    for (int n = 0; n <= 60; n++) {
+      due.is("14: 1 COUGH more each DAY behind the first, " + n + " on", Math.max(0, n - 1), lacking.then(n, 0));
+      due.is("14: IN from TIDE 4 on, " + n + " on", n <= 4 ? 0 : 1, lacking.then(n, 1));
+    }
     due.is("14: a DOCTOR in mind", 9, still("c18;s30000;").then(1, 0));
     TakesWhatItLacks seven = town(SIX_BRIDES, "s10000;");
     due.is("14: who is IN 0 DAYS on", 0, seven.then(0, 1));
@@ -176,6 +184,9 @@ final class MindEdgeTest {
     due.is("19: 8, within 52", 8, x.hide(5, 0, 52));
     due.is("19: 12, within 51, on DAY 44", 12, x.hide(5, 0, 51));
     due.is("19: never, within 1", -9, x.hide(5, 0, 1));
+    for (int n = 1; n <= 60; n++) {
+      due.is("19: within " + n, leastHidden(n), x.hide(5, 0, n));
+    }
     due.is("19: never, of another GOOD, within 59", -9, x.hide(0, 0, 59));
     due.is("19: none of another GOOD, within 60", 0, x.hide(0, 0, 60));
     due.is("19: all of it", 5, still("u53;t505;s04500;").hide(5, 0, 1));
@@ -188,6 +199,23 @@ final class MindEdgeTest {
     due.is("19: one that is IN, of none THERE", 0, town("s10000;d01;t000;").hide(0, 0, 60));
     due.is("19: a BRIDE", 0, town("s10000;").hide(5, 0, 1));
     due.is("19: the last of seven", 15, town(SIX_BRIDES, "s00000;").hide(0, 6, 1));
+  }
+
+  /**
+   * Of IN_BEHIND_60, so that it is IN within n DAYS, for each n. It comes at TIDE 4, on a DAY that is 4 modulo 8, if 4 are
+   * THERE at most, so if 4 more than that DAY were now; or a DAY ahead or behind that, at TIDE 3, if 1 is.
+   */
+  private static int leastHidden(int n) {
+    int most = -1;
+    for (int day = 0; day < n; day++) {
+      if (day % 8 == 4) {
+        most = Math.max(most, day + 4);
+      }
+      if (day % 8 == 3 || day % 8 == 5) {
+        most = Math.max(most, day + 1);
+      }
+    }
+    return most < 0 ? -9 : Math.max(0, 60 - most);
   }
 
   /** "(HIDDEN no matter how many)"; "What is HIDDEN in mind counts for a SMUGGLER, too." */
@@ -216,6 +244,9 @@ final class MindEdgeTest {
     due.is("20: at TIDE 3, within 4", 32, x.fewest(0, 4));
     due.is("20: never, within 3", -9, x.fewest(0, 3));
     due.is("20: never, within 1", -9, x.fewest(0, 1));
+    for (int n = 1; n <= 60; n++) {
+      due.is("20: within " + n, n <= 3 ? -9 : n <= 59 ? 32 : 0, x.fewest(0, n));
+    }
     due.is("20: the first GOOD", 1, still("u09;t063;s09060;").fewest(0, 1));
     due.is("20: of several the least", 2, still("u13;u23;s43160;").fewest(0, 1));
     due.is("20: both of them", 6, still("u13;u23;s49160;").fewest(0, 1));
@@ -263,6 +294,9 @@ final class MindEdgeTest {
     for (int n = 0; n < wants.length; n++) {
       due.is("22: want(" + n + ")", wants[n], x.want(n));
       due.is("22: want(" + n + ") on DAY 999", wants[n], last.want(n));
+    }
+    for (int n = 8; n <= 60; n++) {
+      due.is("22: want(" + n + ")", 28 + (n - 7) * 7, x.want(n));
     }
     due.is("22: want(60)", 28 + 53 * 7, x.want(60));
     due.is("22: want(60) on DAY 999", 28 + 53 * 7, last.want(60));
@@ -319,6 +353,9 @@ final class MindEdgeTest {
     due.is("25: a LOAD of 9, none more within 60", -9, still("u09;t000;s09009;").best(60));
     due.is("25: a LOAD of 10 within 60", 0, still("u09;t000;s09010;").best(60));
     due.is("25: within no DAYS", -9, still("u09;t000;s09010;").best(0));
+    for (int n = 1; n <= 60; n++) {
+      due.is("25: a LOAD of 10 within " + n, 0, still("u09;t000;s09010;").best(n));
+    }
     due.is("25: the last of seven", 6,
         still("u09;t000;s10000;s10000;s10000;s10000;s10000;s10000;s09010;").best(1));
     due.is("25: of two the same the least", 0, still("u09;t000;s09010;s09010;").best(60));
@@ -445,6 +482,9 @@ final class MindEdgeTest {
     due.is("28: behind 60", 10, x.two(5, 0, 60));
     due.is("28: behind 60, the second", 1, x.two(0, 5, 60));
     due.is("28: behind 59, 5 is not better than 5", 0, x.two(5, 0, 59));
+    for (int n = 0; n <= 58; n++) {
+      due.is("28: behind " + n + " it is a LACK of 4 at most", 0, x.two(5, 0, n));
+    }
     due.is("28: of 60 it is IN without", 0, still("u51;t560;s02599;").two(5, 0, 60));
     due.is("28: behind 60 from DAY 999, at TIDE 4 on DAY 1060 alone", 0, stillOnLastDay("u51;t564;s02599;").two(5, 0, 60));
   }
@@ -480,6 +520,11 @@ final class MindEdgeTest {
     fraction(x, 0, 7, 2, 7, 8);
     fraction(x, 0, 7, 20, 7999, 8000);
     fraction(x, 0, 0, 20, 0, 1);
+    for (int t = 2; t <= 20; t++) {
+      fraction(x, 0, 4, t, t - 1, t);
+      fraction(x, 0, 5, t, t * t - 1, t * t);
+      fraction(x, 0, 2, t, 0, 1);
+    }
     fraction(x, 1, 0, 2, 0, 1);
     fraction(x, 1, 1, 2, 1, 2);
     fraction(x, 1, 1, 20, 19, 20);

@@ -218,7 +218,9 @@ final class NowEdgeTest {
     for (int n = 0; n < spared.length; n++) {
       due.is("37: 10 HIDDEN within " + n, spared[n], x.spared(5, n));
     }
-    due.is("37: 10 HIDDEN within 60", 11, x.spared(5, 60));
+    for (int n = 4; n <= 60; n++) {
+      due.is("37: 10 HIDDEN within " + n, 11, x.spared(5, n));
+    }
     due.is("37: of another GOOD", 0, x.spared(4, 60));
     due.is("37: they are HIDDEN still", 10, x.hidden());
     due.is("37: no LACK, none spared", 0, still("u59;t599;h530;").spared(5, 0));
@@ -296,6 +298,11 @@ final class NowEdgeTest {
     due.is("40: judge() of twelve, of no SHIPS", 0, x.judge());
     due.is("39: none behind judge()", 0, x.count(6));
     due.is("39: anew behind judge()", 1, x.row(0));
+    for (int v = 0; v <= 99; v++) {
+      x.clear();
+      due.is("39: row(" + v + ")", 1, x.row(v));
+      due.is("39: the only one", 1, x.count(6));
+    }
   }
 
   private static void judged(int want, TakesWhatItLacks x, int... numbers) {

@@ -3,9 +3,9 @@ import java.util.Arrays;
 import java.util.List;
 
 /**
- * REFUSALS: of each number that a call takes the least, the greatest and those beside them, each with each of the other
- * numbers' (so that every two refusals meet), in a town that has nothing, in one that has some of all, and in one that is
- * full. "The first that fits in the order in which it tells them; nothing changes but how many there were."
+ * REFUSALS: of each number that a call takes the least, the greatest and those on either side of them, each with each of
+ * the other numbers' (so that every two refusals meet), in a town that has nothing, in one that has some of all, and in one
+ * that is full. "The first that fits in the order in which it tells them; nothing changes but how many there were."
  */
 final class RefusalTest {
   private static final int LEAST = Integer.MIN_VALUE;
@@ -28,8 +28,12 @@ final class RefusalTest {
   }
 
   private static Place range(int least, int greatest, int below, int above) {
-    return new Place(new int[] {LEAST, least - 1, least, greatest, greatest + 1, GREATEST},
-        new int[] {below, below, 0, 0, above, above});
+    int[] numbers = {LEAST, least - 1, least, least + 1, greatest - 1, greatest, greatest + 1, GREATEST};
+    int[] refusals = new int[numbers.length];
+    for (int i = 0; i < numbers.length; i++) {
+      refusals[i] = numbers[i] < least ? below : numbers[i] > greatest ? above : 0;
+    }
+    return new Place(numbers, refusals);
   }
 
   private static Place goods() {

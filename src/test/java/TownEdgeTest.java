@@ -407,6 +407,13 @@ final class TownEdgeTest {
     due.is("all THERE again", 20, x.hides(5, -20));
     due.is("none is HIDDEN again", 0, x.good(5, 2));
     due.is("0 of it", 20, x.hides(5, 0));
+    for (int n = 1; n <= 20; n++) {
+      due.is("hides(5, " + n + ")", 20 - n, x.hides(5, n));
+      due.is("HIDDEN, " + n, n, x.good(5, 2));
+      due.is("hides(5, " + (-n - 1) + ")", -3, x.hides(5, -n - 1));
+      due.is("hides(5, " + -n + ")", 20, x.hides(5, -n));
+      due.is("HIDDEN no more", 0, x.good(5, 2));
+    }
     TakesWhatItLacks y = Due.town("t098;h098;t020;");
     due.is("2 more would be HIDDEN 100", -3, y.hides(0, 2));
     due.is("1 more is HIDDEN 99", 19, y.hides(0, 1));
@@ -434,6 +441,10 @@ final class TownEdgeTest {
       due.is("what it was, the least", 0, x.uses(good, 1));
     }
     due.is("what LACK there is then, 7 less 20", 0, x.count(4));
+    for (int v = 0; v <= 9; v++) {
+      due.is("uses(0, " + v + "), behind 1 as above", v == 0 ? 1 : v - 1, x.uses(0, v));
+      due.is("USED, " + v, v, x.good(0, 1));
+    }
   }
 
   /** "A SHIP is OUT again with a LOAD: what it was. -4; -6 99; -3 it is OUT." */
@@ -453,6 +464,12 @@ final class TownEdgeTest {
     due.is("1 is IN still", 62, x.count(3));
     due.is("they come again", 7, x.days(1));
     due.is("and are sent again", 99, x.sends(0, 5));
+    TakesWhatItLacks all = Due.town("s10000;d01;");
+    for (int load = 0; load <= 99; load++) {
+      due.is("sends(0, " + load + ")", load == 0 ? 0 : load - 1, all.sends(0, load));
+      due.is("LOAD, " + load, load, all.shipOf(0, 3));
+      due.is("IN again", 1, all.days(1));
+    }
     // OUT again, it BRINGS again: 20, less 2 for each of four DAYS, 30 at TIDE 3 and 40 when it has come again.
     TakesWhatItLacks y = Due.town("s00130;d04;");
     due.is("THERE behind 4 DAYS", 20 - 8 + 30, y.good(1, 0));
