@@ -456,6 +456,9 @@ final class MindEdgeTest {
     kinds(still("s10000;d01;"), 2, 1023, 10);
     kinds(still("s10000;d01;"), 57, 0, 1);
     kinds(stillOnLastDay("s10000;"), 2, 1023, 10, 9, 10);
+    // IN it BRINGS no more: 63 are LACKED still, 21 and TIDE 1, 21 and TIDE 2.
+    kinds(still("s20160;d01;u19;t100;"), 49, 0, 22, 23);
+    kinds(still("s20160;d01;u19;t100;"), 4, 1023, 6, 7);
     TakesWhatItLacks seven = still("s10000;s10000;s10000;s10000;s10000;s10000;s00000;");
     row(seven, 6);
     due.is("27: KINDS of the last of seven", 4, seven.whatKind(6, 0));
@@ -577,6 +580,24 @@ final class MindEdgeTest {
       TakesWhatItLacks x = still("u" + good + "2;");
       int left = Math.max(0, there[good] - 20);
       due.is("42: a port of seed 0, GOOD " + good, Math.max(0, 14 - left), x.lots(1, 0, 1));
+    }
+    lotsOneBehindTheOther(there);
+  }
+
+  /** The second port goes on with the seed as the first left it, but is "from now" in all else. */
+  private static void lotsOneBehindTheOther(int[] first) {
+    // z 1051550459, 3441282840, 2941955441, 551188310, 2951033815, 1772930244: over 65536, modulo 40.
+    int[] second = {5, 21, 2, 10, 21, 12};
+    for (int good = 0; good < 6; good++) {
+      TakesWhatItLacks x = still("u" + good + "2;");
+      int lackOfFirst = Math.max(0, 14 - Math.max(0, first[good] - 20));
+      int lackOfSecond = Math.max(0, 14 - Math.max(0, second[good] - 20));
+      due.is("42: two ports of seed 0, GOOD " + good, lackOfFirst + lackOfSecond, x.lots(2, 0, 1));
+    }
+    // A LOAD of 99 less 50 USED at most leaves no LACK of 35, if it is BROUGHT in each port anew.
+    TakesWhatItLacks loaded = still("u55;s20599;");
+    for (int n = 1; n <= 20; n++) {
+      due.is("42: a LOAD in each of " + n + " ports", 0, loaded.lots(n, n, 1));
     }
   }
 
