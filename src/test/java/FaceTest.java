@@ -25,6 +25,15 @@ final class FaceTest {
     return names;
   }
 
+  private static boolean takesIntsAlone(Method method) {
+    for (Class<?> type : method.getParameterTypes()) {
+      if (type != int.class) {
+        return false;
+      }
+    }
+    return true;
+  }
+
   private static void methods() {
     Set<String> want = new TreeSet<>(Set.of(FACE));
     Set<String> names = names();
@@ -34,6 +43,7 @@ final class FaceTest {
         found.add(method.getReturnType() + " " + method.getName() + " " + method.getParameterCount());
         due.is(method + " throws nothing", 0, method.getExceptionTypes().length);
         due.is(method + " is of an object", 0, method.getModifiers() & Modifier.STATIC);
+        due.is(method + " takes ints alone", 1, takesIntsAlone(method) ? 1 : 0);
       } else {
         due.is(method + " is private", 1, Modifier.isPrivate(method.getModifiers()) ? 1 : 0);
         due.is(method + " has no name of the face", 0, names.contains(method.getName()) ? 1 : 0);
@@ -60,6 +70,8 @@ final class FaceTest {
         own++;
       }
       due.is(field + " is hidden", 0, field.isEnumConstant() ? 0 : field.getModifiers() & Modifier.PUBLIC);
+      due.is(field + " of the face is private", 1,
+          in != TakesWhatItLacks.class || Modifier.isPrivate(field.getModifiers()) ? 1 : 0);
     }
     due.is(in + " has at most twenty fields", 1, own <= 20 ? 1 : 0);
   }
