@@ -476,7 +476,12 @@ final class MindEdgeTest {
     due.is("28: of 11 not all, the second", 0, still("u13;t111;s04199;").two(0, 1, 1));
     // DRAWS 8: 7 less 10 were a LACK of 24; but 0 is the least THERE.
     due.is("28: of 7 no more than 7", 0, still("u13;t107;s05199;").two(1, 0, 1));
+    due.is("28: of 7 no more than 7, the second", 0, still("u13;t107;s05199;").two(0, 1, 1));
     due.is("28: of none THERE", 0, still("u13;t100;s05199;").two(1, 0, 1));
+    due.is("28: of none THERE, the second", 0, still("u13;t100;s05199;").two(0, 1, 1));
+    // Of 18 10 are HIDDEN, though of the other GOOD there are 4 alone: 13 are LACKED, 4 as it DRAWS. So 5, not 6.
+    due.is("28: 10 of its own, whatever is THERE of the other", 10, still("u13;t118;t004;s01199;").two(1, 0, 1));
+    due.is("28: 10 of its own, the second", 1, still("u13;t118;t004;s01199;").two(0, 1, 1));
     due.is("28: behind no DAYS", 0, still("u13;t109;s04199;").two(1, 0, 0));
     due.is("28: the first and the last GOOD", 10, still("u53;t509;s04599;").two(5, 0, 1));
     due.is("28: the last and the first GOOD", 1, still("u53;t509;s04599;").two(0, 5, 1));

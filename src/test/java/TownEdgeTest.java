@@ -63,6 +63,12 @@ final class TownEdgeTest {
     }
     due.is("an eighth", -6, x.ship(0, 0, 0, 0));
     due.is("seven still", 7, x.count(0));
+    TakesWhatItLacks one = new TakesWhatItLacks();
+    for (int i = 0; i < 7; i++) {
+      due.is("one behind those that are IN, SHIP " + i, i, one.ship(1, 0, 0, 0));
+      due.is("OUT at first, those are IN, SHIP " + i, 0, one.shipOf(i, 4));
+      due.is("IN, all of them behind SHIP " + i, i + 1, one.days(1));
+    }
   }
 
   // ---- LACK, TIDE, DRAWS, SINKS, DEPTH
@@ -414,18 +420,26 @@ final class TownEdgeTest {
       due.is("hides(5, " + -n + ")", 20, x.hides(5, -n));
       due.is("HIDDEN no more", 0, x.good(5, 2));
     }
-    TakesWhatItLacks y = Due.town("t098;h098;t020;");
-    due.is("2 more would be HIDDEN 100", -3, y.hides(0, 2));
-    due.is("1 more is HIDDEN 99", 19, y.hides(0, 1));
-    due.is("HIDDEN 99", 99, y.good(0, 2));
-    due.is("80 more would be THERE 99", 99, y.hides(0, -80));
-    due.is("THERE 99", 99, y.good(0, 0));
-    due.is("1 more would be THERE 100", -3, y.hides(0, -1));
-    due.is("0 at THERE 99", 99, y.hides(0, 0));
-    due.is("HIDDEN behind all that", 19, y.good(0, 2));
-    TakesWhatItLacks z = Due.town("t099;h099;t019;");
-    due.is("81 would be THERE 100", -3, z.hides(0, -81));
-    due.is("80 are THERE 99", 99, z.hides(0, -80));
+    for (int good = 0; good <= 5; good++) {
+      hidesAtMost(good);
+    }
+  }
+
+  /** "(THERE; HIDDEN; above 99 then)": neither HIDDEN nor THERE is above 99 then. */
+  private static void hidesAtMost(int good) {
+    String g = "" + good;
+    TakesWhatItLacks y = Due.town("tG98;hG98;tG20;".replace("G", g));
+    due.is("2 more would be HIDDEN 100", -3, y.hides(good, 2));
+    due.is("1 more is HIDDEN 99", 19, y.hides(good, 1));
+    due.is("HIDDEN 99", 99, y.good(good, 2));
+    due.is("80 more would be THERE 99", 99, y.hides(good, -80));
+    due.is("THERE 99", 99, y.good(good, 0));
+    due.is("1 more would be THERE 100", -3, y.hides(good, -1));
+    due.is("0 at THERE 99", 99, y.hides(good, 0));
+    due.is("HIDDEN behind all that", 19, y.good(good, 2));
+    TakesWhatItLacks z = Due.town("tG99;hG99;tG19;".replace("G", g));
+    due.is("81 would be THERE 100", -3, z.hides(good, -81));
+    due.is("80 are THERE 99", 99, z.hides(good, -80));
     due.is("one of the two was refused", 1, z.count(13));
   }
 
